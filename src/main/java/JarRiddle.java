@@ -142,7 +142,7 @@ public final class JarRiddle {
     public int leastActsIn(int jar, int amount) throws IndexOutOfBoundsException, IllegalArgumentException {
         checkJar(jar);
         checkAmount(amount);
-        return waysFromHere().leastActsTo(jar, amount);
+        return waysFromHere().leastActsWith(jar, amount);
     }
 
     public int nextAct(int amount) throws IllegalArgumentException, IllegalStateException {
@@ -412,7 +412,7 @@ public final class JarRiddle {
             return amount[0] + 10 * amount[1] + 100 * amount[2];
         }
 
-        void take(int state) {
+        void hold(int state) {
             amount[0] = state % 10;
             amount[1] = state / 10 % 10;
             amount[2] = state / 100 % 10;
@@ -468,7 +468,11 @@ public final class JarRiddle {
         private final Row step = new Row();
         private final int[] distance = new int[STATES];
         private final int[] firstAct = new int[STATES];
-        /** The states that are reached, nearer ones first. */
+        /**
+         * The states that are reached, nearer ones first, and of those at the same distance the ones
+         * with a smaller first act first: as each state spreads by smaller acts first, and states
+         * spread in this order, a state is reached first by the smallest first act that it can have.
+         */
         private final int[] order = new int[STATES];
         private int reached;
 
@@ -493,28 +497,22 @@ public final class JarRiddle {
             int away = distanceOf(state);
             for (int act = 0; act < END_OF_ACTS; act++) {
                 if (step.allows(act)) {
-                    step.take(state);
+                    step.hold(state);
                     step.change(act);
                     reach(step.state(), away + 1, away == 0 ? act : firstActOf(state));
                 }
             }
         }
 
-        /**
-         * Notes a way to a state. Of ways of the same length the smallest first act is kept; it is
-         * settled before the state spreads, as all nearer states have spread by then.
-         */
         private void reach(int state, int away, int first) {
-            if (state < 0 || state >= STATES) {
+            if (state < 0 || state >= STATES || reached < 0 || reached >= STATES) {
                 return;
             }
-            if (distance[state] == NONE && reached >= 0 && reached < STATES) {
+            if (distance[state] == NONE) {
                 distance[state] = away;
                 firstAct[state] = first;
                 order[reached] = state;
                 reached++;
-            } else if (distance[state] == away && first < firstAct[state]) {
-                firstAct[state] = first;
             }
         }
 
@@ -530,23 +528,24 @@ public final class JarRiddle {
             return state >= 0 && state < STATES ? firstAct[state] : NONE;
         }
 
-        private boolean holdsSomewhere(int state, int amount) {
-            step.take(state);
-            return step.holdsSomewhere(amount);
-        }
-
-        int leastActsTo(int amount) {
+        /** The first state in the order by which some jar holds the amount. */
+        private int nearestWith(int amount) {
             for (int place = 0; place < reached; place++) {
-                if (holdsSomewhere(stateAt(place), amount)) {
-                    return distanceOf(stateAt(place));
+                step.hold(stateAt(place));
+                if (step.holdsSomewhere(amount)) {
+                    return stateAt(place);
                 }
             }
             return NONE;
         }
 
-        int leastActsTo(int jar, int amount) {
+        int leastActsTo(int amount) {
+            return distanceOf(nearestWith(amount));
+        }
+
+        int leastActsWith(int jar, int amount) {
             for (int place = 0; place < reached; place++) {
-                step.take(stateAt(place));
+                step.hold(stateAt(place));
                 if (step.amountAt(jar) == amount) {
                     return distanceOf(stateAt(place));
                 }
@@ -554,17 +553,9 @@ public final class JarRiddle {
             return NONE;
         }
 
+        /** The smallest act with which a shortest way to the amount begins. */
         int firstActTo(int amount) {
-            int least = leastActsTo(amount);
-            int smallest = NONE;
-            for (int place = 0; place < reached; place++) {
-                int state = stateAt(place);
-                if (distanceOf(state) == least && holdsSomewhere(state, amount)) {
-                    int first = firstActOf(state);
-                    smallest = smallest == NONE || first < smallest ? first : smallest;
-                }
-            }
-            return smallest;
+            return firstActOf(nearestWith(amount));
         }
 
         int statesReached() {
@@ -616,7 +607,7 @@ public final class JarRiddle {
             if (isCandidate(number)) {
                 int third = jarCount == 2 ? 0 : number / 81 + 1;
                 imagined.layEmpty(number % 9 + 1, number / 9 % 9 + 1, third);
-                imagined.take(held[number]);
+                imagined.hold(held[number]);
             }
         }
 

@@ -67,6 +67,16 @@ public final class JarsAndActsTest {
         checks.due("2: layOut(2, 3, 0)", riddle.layOut(2, 3, 0), 2);
         dueBeginning("2: behind layOut(2, 3, 0)", riddle, 81);
         checks.due("2: leastActs(9)", riddle.leastActs(9), -1);
+        riddle.fill(1);
+        riddle.pour(1, 0);
+        checks.due("2: mayBe(1, 1) as b > a", riddle.mayBe(1, 1), false);
+        riddle.layOut(1, 1, 0);
+        checks.due("2: guess(0, 1) behind layOut(1, 1, 0)", riddle.guess(0, 1), true);
+        checks.due("2: guess(1, 1) behind layOut(1, 1, 0)", riddle.guess(1, 1), true);
+        checks.due("2: isKnown(1)", riddle.isKnown(1), true);
+        checks.due("2: leastActs(9) of 1, 1", riddle.leastActs(9), -1);
+        riddle.layOut(9, 9, 0);
+        checks.due("2: leastActs(9) of 9, 9", riddle.leastActs(9), 1);
         checks.due("2: layOut(1, 1, 9)", riddle.layOut(1, 1, 9), 3);
         checks.due("2: layOut(1, 1, 1)", riddle.layOut(1, 1, 1), 3);
     }

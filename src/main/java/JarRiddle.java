@@ -380,7 +380,7 @@ public final class JarRiddle {
         }
 
         boolean has(int jar) {
-            return jar >= 0 && jar < count();
+            return jar >= 0 && jar < volume.length && volume[jar] > 0;
         }
 
         int volumeAt(int jar) {

@@ -106,12 +106,12 @@ public final class AgainstModelTest {
         }
     }
 
-    /** 512 calls, each a dear one: they have to go through, and the sums to add up. */
+    /** 512 calls, nearly all of them dear: they have to go through, and the sums to add up. */
     private void longestRun() {
         JarRiddle riddle = new JarRiddle();
         riddle.layOut(9, 8, 0);
         int done = 0;
-        for (int call = 0; call < 500; call++) {
+        for (int call = 0; call < 507; call++) {
             done += riddle.follow(call % 2 == 0 ? 4 : 5, 50);
         }
         checks.due("acts()", riddle.acts(), done);
